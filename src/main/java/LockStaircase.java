@@ -465,9 +465,9 @@ public final class LockStaircase {
             return turnsAt(gate - 1) > 0 || turnsAt(gate) > 0 || turnsAt(gate + 1) > 0;
         }
 
-        void setOpen(int gate, boolean isOpen) {
+        void setOpen(int gate, boolean wide) {
             if (gate >= 0 && gate < open.length) {
-                open[gate] = isOpen;
+                open[gate] = wide;
             }
         }
 

@@ -223,6 +223,13 @@ public final class PromiseTest {
         Check.refuses("11 a sluice", x, STATE, () -> x.open(0));
         x.wind(1, 0);
         Check.due("11 open(0) again", x.open(0), 1);
+        LockStaircase y = ladder(6, 5, 50);
+        y.wind(6, 1);
+        Check.due("11 the highest sluice of six", y.turnsOf(6), 1);
+        Check.due("11 its units", y.pass(2), 4);
+        y.wind(6, 0);
+        Check.due("11 the highest gate of six", y.open(6), 1);
+        Check.due("11 is open", y.isOpen(6), true);
     }
 
     private static void shut12() {
@@ -575,6 +582,10 @@ public final class PromiseTest {
         y.addBoat(60, 19, false);
         Check.due("28 too shallow", y.minutesFor(0, true), -1);
         Check.due("29 up to the failure", y.waterFor(0, true), 3);
+        LockStaircase z = ladder(1, 20, 50);
+        z.addBoat(10, 5, false);
+        Check.due("29 asked first", z.waterFor(0, true), 19);
+        Check.due("28 asked then", z.minutesFor(0, true), 1);
         y.addBoat(60, 19, true);
         y.open(0);
         y.move(0, true);
@@ -596,6 +607,10 @@ public final class PromiseTest {
 
     private static void meanLevel31() {
         Check.due("31 one", ladder(1, 40, 1).meanLevel(), 0.0);
+        LockStaircase one = ladder(1, 40, 50);
+        one.wind(1, 2);
+        one.pass(1);
+        Check.due("31 one with water", one.meanLevel(), 8.0);
         Check.due("31 two", ladder(2, 5, 1).meanLevel(), 2.5);
         LockStaircase x = ladder(3, 10, 10);
         x.wind(3, 1);
