@@ -34,7 +34,7 @@ public final class LockStaircase {
     private static final int LONGEST_BOAT = 60;
     private static final int GREATEST_DRAUGHT = 19;
     private static final int CHAMBER_LENGTH = 60;
-    // The document tells no bound for the rounds of levelling. Each lets a unit flow, so fewer than 100 are ever needed.
+    // The document tells no bound for the rounds of levelling. Each lets a unit flow, so 100 would be enough.
     private static final int MOST_ROUNDS = 100000;
 
     private final Ladder ladder;
