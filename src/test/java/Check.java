@@ -1,9 +1,28 @@
-/** Counts and tells what the tests of the project find. */
+/** Counts and tells what the tests of the project find, and ends a test that does not end by itself. */
 final class Check {
+    private static final long LONGEST_TEST = 120_000L;
     private static int passed = 0;
     private static int failed = 0;
 
+    // A call that never ends is a fault like a wrong answer, and must not keep .ci/run waiting.
+    static {
+        Thread guard = new Thread(Check::endLongTest);
+        guard.setDaemon(true);
+        guard.start();
+    }
+
     private Check() {
+    }
+
+    private static void endLongTest() {
+        try {
+            Thread.sleep(LONGEST_TEST);
+        } catch (InterruptedException e) {
+            return;
+        }
+        System.out.println("a call does not end");
+        System.out.flush();
+        Runtime.getRuntime().halt(1);
     }
 
     static void due(String what, Object got, Object want) {
@@ -15,9 +34,21 @@ final class Check {
         }
     }
 
+    static void refusesIndex(String what, LockStaircase x, Runnable call) {
+        refuses(what, x, IndexOutOfBoundsException.class, call);
+    }
+
+    static void refusesArgument(String what, LockStaircase x, Runnable call) {
+        refuses(what, x, IllegalArgumentException.class, call);
+    }
+
+    static void refusesState(String what, LockStaircase x, Runnable call) {
+        refuses(what, x, IllegalStateException.class, call);
+    }
+
     /** The call must throw exactly this exception and leave everything that can be asked as it was. */
     static void refuses(String what, LockStaircase x, Class<? extends RuntimeException> want, Runnable call) {
-        String before = picture(x);
+        String before = pictureWithForecasts(x);
         String thrown = "nothing";
         try {
             call.run();
@@ -25,7 +56,7 @@ final class Check {
             thrown = e.getClass().getSimpleName();
         }
         due(what + " throws", thrown, want.getSimpleName());
-        due(what + " leaves", picture(x), before);
+        due(what + " leaves", pictureWithForecasts(x), before);
     }
 
     /** Everything that can be asked without a change, forecasts left out. */
@@ -51,6 +82,16 @@ final class Check {
             s.append('/').append(x.moveObstacle(b, false));
         }
         s.append(" report=").append(report(x)).append(" holds=").append(x.isConsistent());
+        return s.toString();
+    }
+
+    /** The picture and what the forecasts tell; they know of lengths and draughts that nothing else shows. */
+    static String pictureWithForecasts(LockStaircase x) {
+        StringBuilder s = new StringBuilder(picture(x));
+        for (int b = 0; b < x.boatCount(); b++) {
+            s.append(" F").append(b).append('=').append(x.minutesFor(b, true)).append('/').append(x.waterFor(b, true));
+            s.append('/').append(x.minutesFor(b, false)).append('/').append(x.waterFor(b, false));
+        }
         return s.toString();
     }
 
