@@ -352,11 +352,15 @@ public final class BoatsEdgeTest {
         return x;
     }
 
+    private static int draughtNear(int depth) {
+        return Math.max(1, Math.min(19, depth));
+    }
+
     /** "TOO_SHALLOW, the place is the pound, and its depth is less than the draught" */
     private static void shallow22() {
         int[] depth = {-20, -1, 0, 1, 2, 10, 18, 19, 20};
         for (int d : depth) {
-            int[] draughts = {Math.max(1, d - 1), Math.max(1, Math.min(19, d)), Math.max(1, Math.min(19, d + 1)), 1, 19};
+            int[] draughts = {draughtNear(d - 1), draughtNear(d), draughtNear(d + 1), 1, 19};
             LockStaircase x = beside(d, draughts);
             Check.due("22 depth " + d, x.poundDepth(), d);
             Check.due("22 open at depth " + d, x.isOpen(1), true);

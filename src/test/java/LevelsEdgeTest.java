@@ -138,7 +138,7 @@ public final class LevelsEdgeTest {
         Check.due(what + " holds", x.isConsistent(), true);
     }
 
-    /** "flows from a chamber to the next one below if the upper one is above its floor and the lower one is below its top" */
+    /** "from a chamber to the next one below if the upper one is above its floor and the lower one is below its top" */
     private static void floorsAndTops3() {
         LockStaircase x = Setup.brimful(3, 5, 50);
         levels("3 full", x, 5, 10, 15);
@@ -200,7 +200,7 @@ public final class LevelsEdgeTest {
         Check.due(what + " holds", x.isConsistent(), true);
     }
 
-    /** "its depth is its water divided by the area and rounded down (the water can fall below 0, and the depth with it)" */
+    /** "its water divided by the area and rounded down (the water can fall below 0, and the depth with it)" */
     private static void depthOfTheLargestPound5() {
         LockStaircase x = new LockStaircase(1, 40, 50);
         Setup.exhaust(x);
@@ -316,20 +316,29 @@ public final class LevelsEdgeTest {
     /** "Throws IllegalStateException if the highest gate is open", and before it the one for the units */
     private static void rainAtAnOpenGate7() {
         for (int n = 1; n <= 6; n++) {
-            LockStaircase x = Setup.levelled(n, 5, 50, n);
-            Check.due("7 open", x.open(n), 1);
-            Check.refusesState("7 rain(1) at the open gate", x, () -> x.rain(1));
-            Check.refusesState("7 rain(999) at the open gate", x, () -> x.rain(999));
-            Check.refusesArgument("7 rain(0) at the open gate", x, () -> x.rain(0));
-            Check.refusesArgument("7 rain(1000) at the open gate", x, () -> x.rain(1000));
-            Check.refusesArgument("7 rain(least) at the open gate", x, () -> x.rain(LEAST));
-            Check.refusesArgument("7 rain(most) at the open gate", x, () -> x.rain(MOST));
-            x.shut(n);
-            Check.due("7 rain at the shut gate", x.rain(1), 1);
+            LockStaircase full = Setup.levelled(n, 5, 50, n);
+            rainAtTheHighestGate(full, n);
+            Check.due("7 rain on the full pound", full.rain(1), 1);
+            LockStaircase low = new LockStaircase(n, 5, 50);
+            Setup.let(low, n, 1);
+            rainAtTheHighestGate(low, n);
+            Check.due("7 water is wanting", low.poundWater(), 996);
+            Check.due("7 rain on the pound", low.rain(5), 1);
             LockStaircase y = Setup.levelled(n, 5, 50, n - 1);
             Check.due("7 the next gate below open", y.open(n - 1), 1);
             Check.due("7 rain at the next gate below", y.rain(1), 1);
         }
+    }
+
+    private static void rainAtTheHighestGate(LockStaircase x, int gate) {
+        Check.due("7 open", x.open(gate), 1);
+        Check.refusesState("7 rain(1) at the open gate", x, () -> x.rain(1));
+        Check.refusesState("7 rain(999) at the open gate", x, () -> x.rain(999));
+        Check.refusesArgument("7 rain(0) at the open gate", x, () -> x.rain(0));
+        Check.refusesArgument("7 rain(1000) at the open gate", x, () -> x.rain(1000));
+        Check.refusesArgument("7 rain(least) at the open gate", x, () -> x.rain(LEAST));
+        Check.refusesArgument("7 rain(most) at the open gate", x, () -> x.rain(MOST));
+        x.shut(gate);
     }
 
     /** "the units that have flowed to the lower reach": through gate 0 alone, and not what is spilled */

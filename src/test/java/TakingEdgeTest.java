@@ -223,7 +223,8 @@ public final class TakingEdgeTest {
         Setup.let(y, 2, 5);
         Check.due("head of the highest gate", y.headAt(2), -1);
         Check.due("three are above the floor", y.levelOf(1), 8);
-        // One unit down to chamber 0, then two more; the pound (7) gives two for the four that are wanted, and the rest.
+        // The highest chamber is lowered to the pound (7) by a unit, and then to its floor by two more; chamber 0 wants
+        // two yet, and the pound gives one.
         takes("head -1 with chamber 0 empty", y, 0, false, 2, 1 + 1 + 1, 1, "6:1 7:0 7:1 5:-1");
         Check.due("level 0 then", y.levelOf(0), 3);
         Check.due("level 1 then", y.levelOf(1), 6);
@@ -242,7 +243,7 @@ public final class TakingEdgeTest {
         Check.due("the pound is at its floor", x.poundLevel(), 5);
     }
 
-    /** "let N be the difference": a full pound fills the highest chamber by one less than the lift, and not by the lift */
+    /** "let N be the difference": a full pound fills the highest chamber by one less than the lift, not by the lift */
     private static void raisedByTheWholeLift() {
         LockStaircase x = Setup.withBoatInChamber0(2, 5, 50, 5, 19);
         Setup.fill(x, 0);
@@ -257,7 +258,7 @@ public final class TakingEdgeTest {
         takes("raised by the rest", y, 0, true, 3, 1 + (1 + 1) + 1, 1 + 4, "");
     }
 
-    /** One unit less than the lift flows; with 20 none fails in the first minute, so the second has the failure alone. */
+    /** One unit less than the lift flows; with 20 none fails in the first minute, so a second has the failure alone. */
     private static void minutesOfALowPound() {
         int[] lift = {5, 19, 20, 21, 22, 40};
         int[] minutes = {1, 1, 1, 2, 2, 2};
